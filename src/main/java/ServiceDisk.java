@@ -336,7 +336,7 @@ public final class ServiceDisk {
     }
 
     private void findRowsOf(int copy, int sector) {
-        int end = DATA_AT + disk.dataBytes(copy, sector);
+        int end = DATA_AT + disk.dataBytesAt(copy, sector);
         int at = DATA_AT;
         for (int row = 0; row < MOST_ROWS_OF_SECTOR && at < end; row++) {
             int length = disk.byteAt(copy, sector, at + 1);
@@ -354,12 +354,12 @@ public final class ServiceDisk {
             if (copy == NONE) {
                 continue;
             }
-            int number = disk.intAt(copy, sector, 0);
+            int number = disk.numberAt(copy, sector);
             // a number may be below 0, so the first one found is not compared with 0
             if (!found || number > latestNumber) {
                 found = true;
                 latestNumber = number;
-                latestState = disk.longAt(copy, sector, DATA_AT);
+                latestState = disk.stateAt(copy, sector);
             }
         }
     }
@@ -535,26 +535,22 @@ public final class ServiceDisk {
         }
 
         int byteAt(int copy, int sector, int at) {
-            int cell = firstCell(copy, sector) + at;
-            return cell >= 0 && cell < cells.length ? cells[cell] & 255 : 0;
+            return byteOf(firstCell(copy, sector) + at);
         }
 
-        int intAt(int copy, int sector, int at) {
-            int value = 0;
-            for (int i = 0; i < 4; i++) {
-                value = (value << 8) | byteAt(copy, sector, at + i);
-            }
-            return value;
+        int numberAt(int copy, int sector) {
+            return intOf(firstCell(copy, sector));
         }
 
-        long longAt(int copy, int sector, int at) {
-            long high = intAt(copy, sector, at);
-            long low = intAt(copy, sector, at + 4);
+        long stateAt(int copy, int sector) {
+            int from = firstCell(copy, sector) + DATA_AT;
+            long high = intOf(from);
+            long low = intOf(from + 4);
             return (high << 32) | (low & 0xFFFFFFFFL);
         }
 
-        int dataBytes(int copy, int sector) {
-            return (byteAt(copy, sector, COUNT_AT) << 8) | byteAt(copy, sector, COUNT_AT + 1);
+        int dataBytesAt(int copy, int sector) {
+            return dataBytesOf(firstCell(copy, sector));
         }
 
         int firstRightCopy(int sector) {
@@ -567,41 +563,50 @@ public final class ServiceDisk {
         }
 
         boolean isRight(int copy, int sector) {
+            int first = firstCell(copy, sector);
+            int number = intOf(first);
             // the sum comes last, since it is by far the dearest test
-            return hasItsNumber(copy, sector) && hasItsData(copy, sector) && hasItsSum(copy, sector);
-        }
-
-        private boolean hasItsNumber(int copy, int sector) {
-            int number = intAt(copy, sector, 0);
-            return sector < rowSectors() ? number == sector + 1 : number != 0;
-        }
-
-        private boolean hasItsData(int copy, int sector) {
             if (sector < rowSectors()) {
-                return hasWholeRows(copy, sector);
+                return number == sector + 1 && hasWholeRows(first) && hasItsSum(first);
             }
-            return dataBytes(copy, sector) == STATE_BYTES;
+            return number != 0 && dataBytesOf(first) == STATE_BYTES && hasItsSum(first);
         }
 
-        private boolean hasItsSum(int copy, int sector) {
-            return sumOf(cells, firstCell(copy, sector)) == intAt(copy, sector, SUM_AT);
+        private boolean hasItsSum(int first) {
+            return sumOf(cells, first) == intOf(first + SUM_AT);
         }
 
-        private boolean hasWholeRows(int copy, int sector) {
-            int size = dataBytes(copy, sector);
+        private boolean hasWholeRows(int first) {
+            int size = dataBytesOf(first);
             if (size == 0 || size > DATA_BYTES) {
                 return false;
             }
-            int end = DATA_AT + size;
-            int at = DATA_AT;
-            for (int row = 0; row < MOST_ROWS_OF_SECTOR && at < end; row++) {
-                int length = byteAt(copy, sector, at + 1);
-                if (byteAt(copy, sector, at) >= KINDS || length == 0 || length > MOST_ROW_BYTES) {
+            int end = first + DATA_AT + size;
+            int cell = first + DATA_AT;
+            for (int row = 0; row < MOST_ROWS_OF_SECTOR && cell < end; row++) {
+                int length = byteOf(cell + 1);
+                if (byteOf(cell) >= KINDS || length == 0 || length > MOST_ROW_BYTES) {
                     return false;
                 }
-                at += ROW_HEAD + length;
+                cell += ROW_HEAD + length;
             }
-            return at == end;
+            return cell == end;
+        }
+
+        private int dataBytesOf(int first) {
+            return (byteOf(first + COUNT_AT) << 8) | byteOf(first + COUNT_AT + 1);
+        }
+
+        private int intOf(int cell) {
+            int value = 0;
+            for (int i = 0; i < 4; i++) {
+                value = (value << 8) | byteOf(cell + i);
+            }
+            return value;
+        }
+
+        private int byteOf(int cell) {
+            return cell >= 0 && cell < cells.length ? cells[cell] & 255 : 0;
         }
 
         private int firstCell(int copy, int sector) {

@@ -11,8 +11,7 @@ public final class CountTest {
     }
 
     private static void countsOfANewDisk() {
-        ServiceDisk x = new ServiceDisk();
-        x.format(8);
+        ServiceDisk x = Sectors.formatted(8);
         for (int what = 0; what < 8; what++) {
             int count = what;
             CHECK.due("18 count " + what, 0, () -> x.count(count));
@@ -20,8 +19,7 @@ public final class CountTest {
     }
 
     private static void countRefusesInOrder() {
-        ServiceDisk x = new ServiceDisk();
-        x.format(8);
+        ServiceDisk x = Sectors.formatted(8);
         for (int what : new int[] {-1, 8, Integer.MIN_VALUE, Integer.MAX_VALUE}) {
             CHECK.unknown("18 count " + what, () -> x.count(what));
         }
@@ -32,8 +30,7 @@ public final class CountTest {
     }
 
     private static void everyCountIsItsOwn() {
-        ServiceDisk x = new ServiceDisk();
-        x.format(12);
+        ServiceDisk x = Sectors.formatted(12);
         for (int i = 0; i < 9; i++) {
             x.row(0, i, 1);
             if (i > 1) {
@@ -62,8 +59,7 @@ public final class CountTest {
     }
 
     private static void repairsAreCountedForEachCopyOfAStart() {
-        ServiceDisk x = new ServiceDisk();
-        x.format(8);
+        ServiceDisk x = Sectors.formatted(8);
         for (int i = 0; i < 3; i++) {
             x.row(0, i, 1);
             x.sync();

@@ -22,15 +22,9 @@ public final class ReadingTest {
         CHECK.end("ReadingTest");
     }
 
-    private static ServiceDisk formatted(int n) {
-        ServiceDisk x = new ServiceDisk();
-        x.format(n);
-        return x;
-    }
-
     /** Rows 0 and 1 on sector 0, row 2 on sector 1. */
     private static ServiceDisk threeRows() {
-        ServiceDisk x = formatted(8);
+        ServiceDisk x = Sectors.formatted(8);
         x.row(3, 0x0A0B, 2);
         x.row(5, 0xFF, 1);
         x.sync();
@@ -45,7 +39,7 @@ public final class ReadingTest {
     }
 
     private static void alterRefusesInOrder() {
-        ServiceDisk x = formatted(8);
+        ServiceDisk x = Sectors.formatted(8);
         int[] far = {-1, Integer.MIN_VALUE, Integer.MAX_VALUE};
         for (int number : far) {
             CHECK.unknown("10 copy " + number, () -> x.alter(number, 0, 0, 0));
@@ -165,7 +159,7 @@ public final class ReadingTest {
     }
 
     private static void rowsAreReadWhereTheyStand() {
-        ServiceDisk x = formatted(8);
+        ServiceDisk x = Sectors.formatted(8);
         x.row(1, 0x0105, 2);
         x.row(2, 0x07, 1);
         x.sync();
@@ -186,7 +180,7 @@ public final class ReadingTest {
     }
 
     private static void kindIsRead() {
-        ServiceDisk x = formatted(8);
+        ServiceDisk x = Sectors.formatted(8);
         for (int kind = 0; kind < 8; kind++) {
             x.row(kind, 1, 1);
         }
@@ -220,7 +214,7 @@ public final class ReadingTest {
     }
 
     private static ServiceDisk documentsRow() {
-        ServiceDisk x = formatted(8);
+        ServiceDisk x = Sectors.formatted(8);
         x.row(0, 4276803, 3);
         x.sync();
         return x;

@@ -25,12 +25,6 @@ public final class RowsTest {
         CHECK.end("RowsTest");
     }
 
-    private static ServiceDisk formatted(int n) {
-        ServiceDisk x = new ServiceDisk();
-        x.format(n);
-        return x;
-    }
-
     private static void addRows(ServiceDisk x, int rows, int kind, long bytes, int n) {
         for (int i = 0; i < rows; i++) {
             x.row(kind, bytes, n);
@@ -45,7 +39,7 @@ public final class RowsTest {
     }
 
     private static ServiceDisk withoutPower() {
-        ServiceDisk x = formatted(8);
+        ServiceDisk x = Sectors.formatted(8);
         x.cut(0, 0);
         x.save(1);
         return x;
@@ -104,7 +98,7 @@ public final class RowsTest {
     }
 
     private static void formatLeavesNothingOfBefore() {
-        ServiceDisk x = formatted(8);
+        ServiceDisk x = Sectors.formatted(8);
         useSectors(x, 2);
         x.alter(0, 0, 9, 1);
         x.read(0, 0);
@@ -137,7 +131,7 @@ public final class RowsTest {
     }
 
     private static void formatWipesTheBytes() {
-        ServiceDisk x = formatted(32);
+        ServiceDisk x = Sectors.formatted(32);
         useSectors(x, 30);
         x.save(1);
         x.save(2);
@@ -153,12 +147,12 @@ public final class RowsTest {
     }
 
     private static void reserveTakesItsRange() {
-        ServiceDisk x = formatted(32);
+        ServiceDisk x = Sectors.formatted(32);
         for (int sectors : new int[] {-1, 9, Integer.MIN_VALUE, Integer.MAX_VALUE}) {
             CHECK.outOfRange("3 reserve " + sectors, () -> x.reserve(sectors));
         }
         for (int sectors = 0; sectors <= 8; sectors++) {
-            ServiceDisk y = formatted(32);
+            ServiceDisk y = Sectors.formatted(32);
             y.reserve(sectors);
             useSectors(y, 30 - sectors - 1);
             CHECK.due("3 one sector is left above " + sectors, 29 - sectors, () -> y.row(4, 0, 1));
@@ -171,7 +165,7 @@ public final class RowsTest {
     }
 
     private static void reserveHoldsSectorsBackFromReports() {
-        ServiceDisk x = formatted(8);
+        ServiceDisk x = Sectors.formatted(8);
         useSectors(x, 4);
         for (int kind = 4; kind < 8; kind++) {
             int report = kind;
@@ -192,14 +186,14 @@ public final class RowsTest {
     }
 
     private static void reserveStaysOverAStart() {
-        ServiceDisk x = formatted(8);
+        ServiceDisk x = Sectors.formatted(8);
         x.reserve(6);
         x.start();
         CHECK.noRoom("3 the reserve stays", () -> x.row(4, 0, 1));
     }
 
     private static void rowRefusesInOrder() {
-        ServiceDisk x = formatted(8);
+        ServiceDisk x = Sectors.formatted(8);
         for (int kind : new int[] {-1, 8, Integer.MIN_VALUE, Integer.MAX_VALUE}) {
             CHECK.unknown("4 kind " + kind, () -> x.row(kind, 0, 1));
             CHECK.unknown("4 kind ahead of range " + kind, () -> x.row(kind, 0, 0));
@@ -221,7 +215,7 @@ public final class RowsTest {
     }
 
     private static void rowsAreNumbered() {
-        ServiceDisk x = formatted(8);
+        ServiceDisk x = Sectors.formatted(8);
         CHECK.due("4 row 0", 0, () -> x.row(0, 1, 1));
         CHECK.due("4 row 1", 1, () -> x.row(7, -1, 8));
         x.sync();
@@ -232,7 +226,7 @@ public final class RowsTest {
     }
 
     private static void rowIsRefusedBehindAHundred() {
-        ServiceDisk x = formatted(32);
+        ServiceDisk x = Sectors.formatted(32);
         addRows(x, 99, 0, 0, 1);
         CHECK.due("4 the hundredth", 99, () -> x.row(0, 0, 1));
         CHECK.noRoom("4 a hundred wait", () -> x.row(0, 0, 1));
@@ -242,7 +236,7 @@ public final class RowsTest {
     }
 
     private static void rowIsRefusedWithoutSectors() {
-        ServiceDisk x = formatted(8);
+        ServiceDisk x = Sectors.formatted(8);
         useSectors(x, 5);
         addRows(x, 50, 1, -1, 8);
         CHECK.noRoom("4 500 bytes wait, 3 more do not fit", () -> x.row(0, 0, 1));
@@ -259,7 +253,7 @@ public final class RowsTest {
     }
 
     private static void waitingRowsNeedWholeSectors() {
-        ServiceDisk x = formatted(8);
+        ServiceDisk x = Sectors.formatted(8);
         useSectors(x, 2);
         addRows(x, 49, 0, 0, 8);
         x.row(0, 0, 1);
@@ -278,7 +272,7 @@ public final class RowsTest {
     }
 
     private static void refusedRowChangesNothing() {
-        ServiceDisk x = formatted(8);
+        ServiceDisk x = Sectors.formatted(8);
         x.row(1, 5, 1);
         CHECK.unknown("4 refused", () -> x.row(9, 6, 1));
         CHECK.outOfRange("4 refused", () -> x.row(1, 6, 9));
@@ -288,7 +282,7 @@ public final class RowsTest {
     }
 
     private static void syncWritesWhatTheDocumentSays() {
-        ServiceDisk x = formatted(8);
+        ServiceDisk x = Sectors.formatted(8);
         x.row(2, 0x0102L, 2);
         x.row(7, 0xFFL, 1);
         CHECK.due("5 synced", 2, x::sync);
@@ -305,7 +299,7 @@ public final class RowsTest {
     }
 
     private static void syncTakesTheLowestBytes() {
-        ServiceDisk x = formatted(8);
+        ServiceDisk x = Sectors.formatted(8);
         for (int n = 1; n <= 8; n++) {
             x.row(0, 0xF1F2F3F4F5F6F7F8L, n);
         }
@@ -322,7 +316,7 @@ public final class RowsTest {
     }
 
     private static void syncFillsSectorsInOrder() {
-        ServiceDisk x = formatted(8);
+        ServiceDisk x = Sectors.formatted(8);
         for (int i = 0; i < 100; i++) {
             x.row(i % 4, i, 8);
         }
@@ -340,7 +334,7 @@ public final class RowsTest {
     }
 
     private static void syncOfNothingUsesNothing() {
-        ServiceDisk x = formatted(8);
+        ServiceDisk x = Sectors.formatted(8);
         CHECK.due("5 nothing waits", 0, x::sync);
         CHECK.due("5 no sector is used", 0, () -> x.count(4));
         x.cut(0, 0);
@@ -351,7 +345,7 @@ public final class RowsTest {
     }
 
     private static void everySyncTakesNewSectors() {
-        ServiceDisk x = formatted(8);
+        ServiceDisk x = Sectors.formatted(8);
         for (int i = 1; i <= 6; i++) {
             int all = i;
             x.row(0, i, 1);

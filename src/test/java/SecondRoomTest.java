@@ -22,8 +22,7 @@ public final class SecondRoomTest {
     }
 
     private static ServiceDisk withRows(int rows) {
-        ServiceDisk x = new ServiceDisk();
-        x.format(32);
+        ServiceDisk x = Sectors.formatted(32);
         for (int i = 0; i < rows; i++) {
             x.row(i % 4, i, 1);
             if (i % 100 == 99) {
@@ -204,8 +203,7 @@ public final class SecondRoomTest {
     }
 
     private static void startForgetsRowsThatAreNotAnyMore() {
-        ServiceDisk x = new ServiceDisk();
-        x.format(8);
+        ServiceDisk x = Sectors.formatted(8);
         for (int i = 0; i < 6; i++) {
             x.row(0, i, 1);
             x.sync();
