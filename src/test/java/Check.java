@@ -4,10 +4,19 @@ import java.util.function.LongSupplier;
 final class Check {
     private int looked;
     private int wrong;
+    private String sentence = "";
+    private int lookedBefore = -1;
 
     /** A call that may answer nothing. */
     interface Call {
         void run();
+    }
+
+    /** Names the document's sentence that the next looks are for; a sentence that nothing looks at is wrong. */
+    void sentence(String where, String words) {
+        endSentence();
+        sentence = where + ", \"" + words + "\": ";
+        lookedBefore = looked;
     }
 
     void due(String what, long want, LongSupplier call) {
@@ -60,16 +69,24 @@ final class Check {
     }
 
     void end(String test) {
+        endSentence();
         System.out.println(test + ": " + looked + " looked at, " + wrong + " wrong");
         if (wrong != 0 || looked == 0) {
             System.exit(1);
         }
     }
 
+    private void endSentence() {
+        if (looked == lookedBefore) {
+            wrong++;
+            System.out.println(sentence + "nothing looks at it");
+        }
+    }
+
     private void compare(String what, String want, String got) {
         if (!want.equals(got)) {
             wrong++;
-            System.out.println(what + ": answered " + got + ", due is " + want);
+            System.out.println(sentence + what + ": answered " + got + ", due is " + want);
         }
     }
 

@@ -11,7 +11,7 @@ public final class CountTest {
     }
 
     private static void countsOfANewDisk() {
-        ServiceDisk x = Sectors.formatted(8);
+        ServiceDisk x = Disks.formatted(8);
         for (int what = 0; what < 8; what++) {
             int count = what;
             CHECK.due("18 count " + what, 0, () -> x.count(count));
@@ -19,7 +19,7 @@ public final class CountTest {
     }
 
     private static void countRefusesInOrder() {
-        ServiceDisk x = Sectors.formatted(8);
+        ServiceDisk x = Disks.formatted(8);
         for (int what : new int[] {-1, 8, Integer.MIN_VALUE, Integer.MAX_VALUE}) {
             CHECK.unknown("18 count " + what, () -> x.count(what));
         }
@@ -30,7 +30,7 @@ public final class CountTest {
     }
 
     private static void everyCountIsItsOwn() {
-        ServiceDisk x = Sectors.formatted(12);
+        ServiceDisk x = Disks.formatted(12);
         for (int i = 0; i < 9; i++) {
             x.row(0, i, 1);
             if (i > 1) {
@@ -59,7 +59,7 @@ public final class CountTest {
     }
 
     private static void repairsAreCountedForEachCopyOfAStart() {
-        ServiceDisk x = Sectors.formatted(8);
+        ServiceDisk x = Disks.formatted(8);
         for (int i = 0; i < 3; i++) {
             x.row(0, i, 1);
             x.sync();

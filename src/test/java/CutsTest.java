@@ -31,7 +31,7 @@ public final class CutsTest {
     }
 
     private static void cutTakesItsRange() {
-        ServiceDisk x = Sectors.formatted(8);
+        ServiceDisk x = Disks.formatted(8);
         for (int writes : new int[] {-1, 21, Integer.MIN_VALUE, Integer.MAX_VALUE}) {
             CHECK.outOfRange("8 writes " + writes, () -> x.cut(writes, 0));
         }
@@ -49,7 +49,7 @@ public final class CutsTest {
     }
 
     private static void cutNeedsPower() {
-        ServiceDisk x = Sectors.formatted(8);
+        ServiceDisk x = Disks.formatted(8);
         x.cut(0, 0);
         x.save(1);
         CHECK.notInThisState("8 no power", () -> x.cut(0, 0));
@@ -60,7 +60,7 @@ public final class CutsTest {
     private static void cutTearsAtTheByte() {
         byte[] whole = Sectors.of(1, 3, 2, 0xAB, 0xCD);
         for (int bytes : new int[] {400, 507, 508, 509, 510, 511}) {
-            ServiceDisk x = Sectors.formatted(8);
+            ServiceDisk x = Disks.formatted(8);
             x.row(3, 0xABCD, 2);
             x.cut(0, bytes);
             CHECK.due("8 cut", -1, x::sync);
@@ -77,7 +77,7 @@ public final class CutsTest {
         byte[] before = Sectors.ofState(1, 0x1111111111111111L);
         byte[] whole = Sectors.ofState(3, 0x2222222222222222L);
         for (int bytes = 0; bytes <= 14; bytes++) {
-            ServiceDisk x = Sectors.formatted(8);
+            ServiceDisk x = Disks.formatted(8);
             x.save(0x1111111111111111L);
             x.save(7);
             x.cut(1, bytes);
@@ -95,7 +95,7 @@ public final class CutsTest {
         int[] rowsDue = {0, 50, 50, 100};
         int[] repairsDue = {0, 1, 0, 1};
         for (int writes = 0; writes < 4; writes++) {
-            ServiceDisk x = Sectors.formatted(8);
+            ServiceDisk x = Disks.formatted(8);
             for (int i = 0; i < 100; i++) {
                 x.row(1, i, 8);
             }
@@ -116,7 +116,7 @@ public final class CutsTest {
     }
 
     private static void cutCountsWritesOverCalls() {
-        ServiceDisk x = Sectors.formatted(8);
+        ServiceDisk x = Disks.formatted(8);
         x.cut(5, 100);
         x.row(0, 1, 1);
         CHECK.due("8 writes 1 and 2", 1, x::sync);
@@ -129,7 +129,7 @@ public final class CutsTest {
     }
 
     private static void cutTakesTheLastOneTold() {
-        ServiceDisk x = Sectors.formatted(8);
+        ServiceDisk x = Disks.formatted(8);
         x.cut(0, 0);
         x.cut(2, 0);
         CHECK.due("8 the first is not any more", 1, () -> x.save(5));
@@ -137,7 +137,7 @@ public final class CutsTest {
     }
 
     private static void cutIsForgotten() {
-        ServiceDisk x = Sectors.formatted(8);
+        ServiceDisk x = Disks.formatted(8);
         x.cut(0, 0);
         x.start();
         CHECK.due("9 a start forgets it", 1, () -> x.save(5));
@@ -147,7 +147,7 @@ public final class CutsTest {
     }
 
     private static void withoutPowerNothingTells() {
-        ServiceDisk x = Sectors.formatted(8);
+        ServiceDisk x = Disks.formatted(8);
         putRow(x, 0, 1);
         x.cut(0, 0);
         x.save(1);
@@ -187,7 +187,7 @@ public final class CutsTest {
     }
 
     private static void startForgetsWhatWaits() {
-        ServiceDisk x = Sectors.formatted(8);
+        ServiceDisk x = Disks.formatted(8);
         putRow(x, 0, 1);
         x.row(0, 2, 1);
         x.row(0, 3, 1);
@@ -197,7 +197,7 @@ public final class CutsTest {
     }
 
     private static void startStopsAtTheFirstWrongSector() {
-        ServiceDisk x = Sectors.formatted(8);
+        ServiceDisk x = Disks.formatted(8);
         for (int i = 0; i < 4; i++) {
             putRow(x, 0, 10 + i);
         }
@@ -211,7 +211,7 @@ public final class CutsTest {
     }
 
     private static void startFindsOldSectorsAgain() {
-        ServiceDisk x = Sectors.formatted(8);
+        ServiceDisk x = Disks.formatted(8);
         for (int i = 0; i < 3; i++) {
             putRow(x, 0, 10 + i);
         }
@@ -226,7 +226,7 @@ public final class CutsTest {
     }
 
     private static void startRepairs() {
-        ServiceDisk x = Sectors.formatted(8);
+        ServiceDisk x = Disks.formatted(8);
         putRow(x, 1, 10);
         putRow(x, 2, 11);
         x.alter(0, 0, 200, 1);
@@ -244,7 +244,7 @@ public final class CutsTest {
     }
 
     private static void startIsNotCutByRepairs() {
-        ServiceDisk x = Sectors.formatted(8);
+        ServiceDisk x = Disks.formatted(8);
         putRow(x, 1, 10);
         x.alter(0, 0, 200, 1);
         x.cut(0, 0);
@@ -255,11 +255,11 @@ public final class CutsTest {
 
     private static void startWantsNumbers() {
         for (int number : new int[] {0, 2, -1, 0x01000001}) {
-            ServiceDisk x = Sectors.formatted(8);
+            ServiceDisk x = Disks.formatted(8);
             Sectors.turnBoth(x, 0, Sectors.blank(), Sectors.of(number, 0, 1, 5));
             CHECK.due("9 the first sector has number 1, not " + number, 0, x::start);
         }
-        ServiceDisk x = Sectors.formatted(8);
+        ServiceDisk x = Disks.formatted(8);
         for (int sector = 0; sector < 6; sector++) {
             Sectors.turn(x, sector % 2, sector, Sectors.blank(), Sectors.of(sector + 1, 7, 1, sector));
         }
@@ -288,11 +288,11 @@ public final class CutsTest {
             Sectors.saying(0x0103, 1, 0, 1, 5),
         };
         for (int i = 0; i < wrong.length; i++) {
-            ServiceDisk x = Sectors.formatted(8);
+            ServiceDisk x = Disks.formatted(8);
             Sectors.turn(x, 0, 0, Sectors.blank(), wrong[i]);
             CHECK.due("9 no whole rows: " + i, 0, x::start);
         }
-        ServiceDisk x = Sectors.formatted(8);
+        ServiceDisk x = Disks.formatted(8);
         Sectors.turn(x, 1, 0, Sectors.blank(), Sectors.of(1, 0, 1, 5, 7, 8, 1, 2, 3, 4, 5, 6, 7, 8));
         CHECK.due("9 whole rows", 2, x::start);
         CHECK.due("9 the second one", 8, () -> x.read(1, 7));
@@ -307,13 +307,13 @@ public final class CutsTest {
     }
 
     private static void startLooksNotBehindTheBytes() {
-        ServiceDisk x = Sectors.formatted(8);
+        ServiceDisk x = Disks.formatted(8);
         Sectors.turnBoth(x, 0, Sectors.blank(), Sectors.saying(3, 1, 0, 1, 5, 9, 9, 9));
         CHECK.due("9 the sum, the number and the rows are right", 1, x::start);
     }
 
     private static void startFindsAsManyRowsAsFit() {
-        ServiceDisk x = Sectors.formatted(8);
+        ServiceDisk x = Disks.formatted(8);
         Sectors.turn(x, 0, 0, Sectors.blank(), Sectors.of(1, rowsOfThree(167)));
         CHECK.due("9 167 rows of three", 167, x::start);
         CHECK.due("9 the last of them", 0, () -> x.read(166, 0));

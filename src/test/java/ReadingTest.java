@@ -24,7 +24,7 @@ public final class ReadingTest {
 
     /** Rows 0 and 1 on sector 0, row 2 on sector 1. */
     private static ServiceDisk threeRows() {
-        ServiceDisk x = Sectors.formatted(8);
+        ServiceDisk x = Disks.formatted(8);
         x.row(3, 0x0A0B, 2);
         x.row(5, 0xFF, 1);
         x.sync();
@@ -33,13 +33,8 @@ public final class ReadingTest {
         return x;
     }
 
-    private static void breakBoth(ServiceDisk x, int sector) {
-        x.alter(0, sector, 300, 16);
-        x.alter(1, sector, 300, 16);
-    }
-
     private static void alterRefusesInOrder() {
-        ServiceDisk x = Sectors.formatted(8);
+        ServiceDisk x = Disks.formatted(8);
         int[] far = {-1, Integer.MIN_VALUE, Integer.MAX_VALUE};
         for (int number : far) {
             CHECK.unknown("10 copy " + number, () -> x.alter(number, 0, 0, 0));
@@ -114,7 +109,7 @@ public final class ReadingTest {
         CHECK.outOfRange("11 lowest byte", () -> x.read(2, Integer.MIN_VALUE));
         x.row(0, 1, 1);
         CHECK.unknown("11 a row that waits", () -> x.read(3, 0));
-        breakBoth(x, 0);
+        Disks.spoilBoth(x, 0);
         CHECK.outOfRange("11 range ahead of lost", () -> x.read(0, -1));
         x.alter(0, 1, 300, 16);
         CHECK.outOfRange("11 refused", () -> x.read(2, -1));
@@ -137,7 +132,7 @@ public final class ReadingTest {
 
     private static void readOfALostRow() {
         ServiceDisk x = threeRows();
-        breakBoth(x, 0);
+        Disks.spoilBoth(x, 0);
         CHECK.due("11 lost", -2, () -> x.read(0, 0));
         CHECK.due("11 lost, behind it", -2, () -> x.read(0, 8));
         CHECK.due("12 lost", -2, () -> x.kind(1));
@@ -159,7 +154,7 @@ public final class ReadingTest {
     }
 
     private static void rowsAreReadWhereTheyStand() {
-        ServiceDisk x = Sectors.formatted(8);
+        ServiceDisk x = Disks.formatted(8);
         x.row(1, 0x0105, 2);
         x.row(2, 0x07, 1);
         x.sync();
@@ -180,7 +175,7 @@ public final class ReadingTest {
     }
 
     private static void kindIsRead() {
-        ServiceDisk x = Sectors.formatted(8);
+        ServiceDisk x = Disks.formatted(8);
         for (int kind = 0; kind < 8; kind++) {
             x.row(kind, 1, 1);
         }
@@ -214,7 +209,7 @@ public final class ReadingTest {
     }
 
     private static ServiceDisk documentsRow() {
-        ServiceDisk x = Sectors.formatted(8);
+        ServiceDisk x = Disks.formatted(8);
         x.row(0, 4276803, 3);
         x.sync();
         return x;
@@ -233,12 +228,12 @@ public final class ReadingTest {
 
     private static void extractLeavesOutLostRows() {
         ServiceDisk x = threeRows();
-        breakBoth(x, 0);
+        Disks.spoilBoth(x, 0);
         CHECK.due("13 the first sector is lost", Sectors.sum(1, 1, 2, 3), () -> x.extract(0, 3));
-        breakBoth(x, 0);
-        breakBoth(x, 1);
+        Disks.spoilBoth(x, 0);
+        Disks.spoilBoth(x, 1);
         CHECK.due("13 the second sector is lost", Sectors.sum(3, 0x0A, 0x0B, 5, 0xFF), () -> x.extract(0, 3));
-        breakBoth(x, 0);
+        Disks.spoilBoth(x, 0);
         CHECK.due("13 all are lost", 0, () -> x.extract(0, 3));
         CHECK.due("13 none was read from copy 1", 0, () -> x.count(2));
     }

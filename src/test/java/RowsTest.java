@@ -25,26 +25,6 @@ public final class RowsTest {
         CHECK.end("RowsTest");
     }
 
-    private static void addRows(ServiceDisk x, int rows, int kind, long bytes, int n) {
-        for (int i = 0; i < rows; i++) {
-            x.row(kind, bytes, n);
-        }
-    }
-
-    private static void useSectors(ServiceDisk x, int sectors) {
-        for (int i = 0; i < sectors; i++) {
-            x.row(0, i, 1);
-            x.sync();
-        }
-    }
-
-    private static ServiceDisk withoutPower() {
-        ServiceDisk x = Sectors.formatted(8);
-        x.cut(0, 0);
-        x.save(1);
-        return x;
-    }
-
     private static void newObjectHasNoDisk() {
         ServiceDisk x = new ServiceDisk();
         CHECK.notInThisState("1 reserve", () -> x.reserve(2));
@@ -98,8 +78,8 @@ public final class RowsTest {
     }
 
     private static void formatLeavesNothingOfBefore() {
-        ServiceDisk x = Sectors.formatted(8);
-        useSectors(x, 2);
+        ServiceDisk x = Disks.formatted(8);
+        Disks.useSectors(x, 2);
         x.alter(0, 0, 9, 1);
         x.read(0, 0);
         x.start();
@@ -120,7 +100,7 @@ public final class RowsTest {
         }
         CHECK.due("2 no state", 0, x::state);
         CHECK.notInThisState("2 the line is up", () -> x.line(true));
-        useSectors(x, 4);
+        Disks.useSectors(x, 4);
         CHECK.due("2 no cut waits", 4, () -> x.count(0));
         CHECK.noRoom("2 the reserve is 2", () -> x.row(4, 0, 1));
         CHECK.due("2 not more than 2", 4, () -> x.row(0, 0, 1));
@@ -131,8 +111,8 @@ public final class RowsTest {
     }
 
     private static void formatWipesTheBytes() {
-        ServiceDisk x = Sectors.formatted(32);
-        useSectors(x, 30);
+        ServiceDisk x = Disks.formatted(32);
+        Disks.useSectors(x, 30);
         x.save(1);
         x.save(2);
         x.format(32);
@@ -147,26 +127,26 @@ public final class RowsTest {
     }
 
     private static void reserveTakesItsRange() {
-        ServiceDisk x = Sectors.formatted(32);
+        ServiceDisk x = Disks.formatted(32);
         for (int sectors : new int[] {-1, 9, Integer.MIN_VALUE, Integer.MAX_VALUE}) {
             CHECK.outOfRange("3 reserve " + sectors, () -> x.reserve(sectors));
         }
         for (int sectors = 0; sectors <= 8; sectors++) {
-            ServiceDisk y = Sectors.formatted(32);
+            ServiceDisk y = Disks.formatted(32);
             y.reserve(sectors);
-            useSectors(y, 30 - sectors - 1);
+            Disks.useSectors(y, 30 - sectors - 1);
             CHECK.due("3 one sector is left above " + sectors, 29 - sectors, () -> y.row(4, 0, 1));
             y.sync();
             CHECK.noRoom("3 reserve of " + sectors, () -> y.row(4, 0, 1));
         }
-        ServiceDisk off = withoutPower();
+        ServiceDisk off = Disks.withoutPower(8);
         CHECK.notInThisState("3 no power", () -> off.reserve(0));
         CHECK.outOfRange("3 range ahead of power", () -> off.reserve(9));
     }
 
     private static void reserveHoldsSectorsBackFromReports() {
-        ServiceDisk x = Sectors.formatted(8);
-        useSectors(x, 4);
+        ServiceDisk x = Disks.formatted(8);
+        Disks.useSectors(x, 4);
         for (int kind = 4; kind < 8; kind++) {
             int report = kind;
             CHECK.noRoom("3 kind " + kind, () -> x.row(report, 0, 1));
@@ -186,14 +166,14 @@ public final class RowsTest {
     }
 
     private static void reserveStaysOverAStart() {
-        ServiceDisk x = Sectors.formatted(8);
+        ServiceDisk x = Disks.formatted(8);
         x.reserve(6);
         x.start();
         CHECK.noRoom("3 the reserve stays", () -> x.row(4, 0, 1));
     }
 
     private static void rowRefusesInOrder() {
-        ServiceDisk x = Sectors.formatted(8);
+        ServiceDisk x = Disks.formatted(8);
         for (int kind : new int[] {-1, 8, Integer.MIN_VALUE, Integer.MAX_VALUE}) {
             CHECK.unknown("4 kind " + kind, () -> x.row(kind, 0, 1));
             CHECK.unknown("4 kind ahead of range " + kind, () -> x.row(kind, 0, 0));
@@ -201,11 +181,11 @@ public final class RowsTest {
         for (int n : new int[] {0, -1, 9, Integer.MIN_VALUE, Integer.MAX_VALUE}) {
             CHECK.outOfRange("4 bytes " + n, () -> x.row(0, 0, n));
         }
-        ServiceDisk off = withoutPower();
+        ServiceDisk off = Disks.withoutPower(8);
         CHECK.unknown("4 kind ahead of power", () -> off.row(8, 0, 1));
         CHECK.outOfRange("4 range ahead of power", () -> off.row(0, 0, 9));
         CHECK.notInThisState("4 no power", () -> off.row(0, 0, 8));
-        useSectors(x, 6);
+        Disks.useSectors(x, 6);
         CHECK.noRoom("4 no room", () -> x.row(0, 0, 1));
         CHECK.unknown("4 kind ahead of room", () -> x.row(8, 0, 1));
         CHECK.outOfRange("4 range ahead of room", () -> x.row(0, 0, 0));
@@ -215,7 +195,7 @@ public final class RowsTest {
     }
 
     private static void rowsAreNumbered() {
-        ServiceDisk x = Sectors.formatted(8);
+        ServiceDisk x = Disks.formatted(8);
         CHECK.due("4 row 0", 0, () -> x.row(0, 1, 1));
         CHECK.due("4 row 1", 1, () -> x.row(7, -1, 8));
         x.sync();
@@ -226,8 +206,8 @@ public final class RowsTest {
     }
 
     private static void rowIsRefusedBehindAHundred() {
-        ServiceDisk x = Sectors.formatted(32);
-        addRows(x, 99, 0, 0, 1);
+        ServiceDisk x = Disks.formatted(32);
+        Disks.addRows(x, 99, 0, 0, 1);
         CHECK.due("4 the hundredth", 99, () -> x.row(0, 0, 1));
         CHECK.noRoom("4 a hundred wait", () -> x.row(0, 0, 1));
         CHECK.noRoom("4 a hundred wait, for reports", () -> x.row(4, 0, 1));
@@ -236,43 +216,43 @@ public final class RowsTest {
     }
 
     private static void rowIsRefusedWithoutSectors() {
-        ServiceDisk x = Sectors.formatted(8);
-        useSectors(x, 5);
-        addRows(x, 50, 1, -1, 8);
+        ServiceDisk x = Disks.formatted(8);
+        Disks.useSectors(x, 5);
+        Disks.addRows(x, 50, 1, -1, 8);
         CHECK.noRoom("4 500 bytes wait, 3 more do not fit", () -> x.row(0, 0, 1));
         CHECK.due("4 the sync fits", 55, x::sync);
         CHECK.due("4 all are used", 6, () -> x.count(4));
         CHECK.noRoom("4 none is left", () -> x.row(0, 0, 1));
         x.format(8);
-        useSectors(x, 5);
-        addRows(x, 49, 1, -1, 8);
-        addRows(x, 4, 1, -1, 1);
+        Disks.useSectors(x, 5);
+        Disks.addRows(x, 49, 1, -1, 8);
+        Disks.addRows(x, 4, 1, -1, 1);
         CHECK.noRoom("4 502 bytes wait", () -> x.row(0, 0, 1));
         CHECK.due("4 502 bytes fit", 58, x::sync);
         CHECK.due("4 the last byte of 502", 255, () -> x.read(57, 0));
     }
 
     private static void waitingRowsNeedWholeSectors() {
-        ServiceDisk x = Sectors.formatted(8);
-        useSectors(x, 2);
-        addRows(x, 49, 0, 0, 8);
+        ServiceDisk x = Disks.formatted(8);
+        Disks.useSectors(x, 2);
+        Disks.addRows(x, 49, 0, 0, 8);
         x.row(0, 0, 1);
         CHECK.due("4 493 bytes wait, a row of 10 goes on the next one", 52, () -> x.row(4, 0, 8));
-        addRows(x, 48, 4, 0, 8);
+        Disks.addRows(x, 48, 4, 0, 8);
         CHECK.due("4 49 rows on the second sector", 99, () -> x.count(1));
         CHECK.due("4 500 bytes on the second sector", 101, () -> x.row(4, 0, 8));
         CHECK.due("4 synced", 102, x::sync);
         CHECK.due("4 two sectors", 4, () -> x.count(4));
         x.format(8);
-        useSectors(x, 4);
+        Disks.useSectors(x, 4);
         x.reserve(1);
-        addRows(x, 50, 4, 0, 8);
+        Disks.addRows(x, 50, 4, 0, 8);
         CHECK.noRoom("4 reports have one sector", () -> x.row(4, 0, 1));
         CHECK.due("4 calls have two", 54, () -> x.row(3, 0, 1));
     }
 
     private static void refusedRowChangesNothing() {
-        ServiceDisk x = Sectors.formatted(8);
+        ServiceDisk x = Disks.formatted(8);
         x.row(1, 5, 1);
         CHECK.unknown("4 refused", () -> x.row(9, 6, 1));
         CHECK.outOfRange("4 refused", () -> x.row(1, 6, 9));
@@ -282,7 +262,7 @@ public final class RowsTest {
     }
 
     private static void syncWritesWhatTheDocumentSays() {
-        ServiceDisk x = Sectors.formatted(8);
+        ServiceDisk x = Disks.formatted(8);
         x.row(2, 0x0102L, 2);
         x.row(7, 0xFFL, 1);
         CHECK.due("5 synced", 2, x::sync);
@@ -299,7 +279,7 @@ public final class RowsTest {
     }
 
     private static void syncTakesTheLowestBytes() {
-        ServiceDisk x = Sectors.formatted(8);
+        ServiceDisk x = Disks.formatted(8);
         for (int n = 1; n <= 8; n++) {
             x.row(0, 0xF1F2F3F4F5F6F7F8L, n);
         }
@@ -316,7 +296,7 @@ public final class RowsTest {
     }
 
     private static void syncFillsSectorsInOrder() {
-        ServiceDisk x = Sectors.formatted(8);
+        ServiceDisk x = Disks.formatted(8);
         for (int i = 0; i < 100; i++) {
             x.row(i % 4, i, 8);
         }
@@ -334,7 +314,7 @@ public final class RowsTest {
     }
 
     private static void syncOfNothingUsesNothing() {
-        ServiceDisk x = Sectors.formatted(8);
+        ServiceDisk x = Disks.formatted(8);
         CHECK.due("5 nothing waits", 0, x::sync);
         CHECK.due("5 no sector is used", 0, () -> x.count(4));
         x.cut(0, 0);
@@ -345,7 +325,7 @@ public final class RowsTest {
     }
 
     private static void everySyncTakesNewSectors() {
-        ServiceDisk x = Sectors.formatted(8);
+        ServiceDisk x = Disks.formatted(8);
         for (int i = 1; i <= 6; i++) {
             int all = i;
             x.row(0, i, 1);

@@ -21,42 +21,14 @@ public final class SecondRoomTest {
         CHECK.end("SecondRoomTest");
     }
 
-    private static ServiceDisk withRows(int rows) {
-        ServiceDisk x = Sectors.formatted(32);
-        for (int i = 0; i < rows; i++) {
-            x.row(i % 4, i, 1);
-            if (i % 100 == 99) {
-                x.sync();
-            }
-        }
-        x.sync();
-        return x;
-    }
-
-    /** Sends rows by ones: up where the text has '+', down where it has '-'. */
-    private static void sendSo(ServiceDisk x, String pattern) {
-        boolean up = true;
-        for (int i = 0; i < pattern.length(); i++) {
-            boolean wanted = pattern.charAt(i) == '+';
-            if (wanted != up) {
-                x.line(wanted);
-                up = wanted;
-            }
-            x.send(1);
-        }
-        if (!up) {
-            x.line(true);
-        }
-    }
-
     private static void lineIsUpAtFirst() {
-        ServiceDisk x = withRows(1);
+        ServiceDisk x = Disks.withRows(1);
         CHECK.notInThisState("14 it is up", () -> x.line(true));
         CHECK.due("15 up", 1, () -> x.send(1));
     }
 
     private static void lineRefusesWhatIsSo() {
-        ServiceDisk x = withRows(2);
+        ServiceDisk x = Disks.withRows(2);
         x.line(false);
         CHECK.notInThisState("14 it is down", () -> x.line(false));
         CHECK.due("15 refused changes nothing", 0, () -> x.send(1));
@@ -69,7 +41,7 @@ public final class SecondRoomTest {
     }
 
     private static void sendTakesItsRange() {
-        ServiceDisk x = withRows(150);
+        ServiceDisk x = Disks.withRows(150);
         for (int n : new int[] {-1, 101, Integer.MIN_VALUE, Integer.MAX_VALUE}) {
             CHECK.outOfRange("15 send " + n, () -> x.send(n));
         }
@@ -81,7 +53,7 @@ public final class SecondRoomTest {
     }
 
     private static void sendTakesTheNextInOrder() {
-        ServiceDisk x = withRows(6);
+        ServiceDisk x = Disks.withRows(6);
         CHECK.due("15 two", 2, () -> x.send(2));
         x.line(false);
         CHECK.due("15 how many are there then", 2, () -> x.send(1));
@@ -93,7 +65,7 @@ public final class SecondRoomTest {
     }
 
     private static void sendTakesAcknowledgedRowsOnly() {
-        ServiceDisk x = withRows(2);
+        ServiceDisk x = Disks.withRows(2);
         x.row(0, 1, 1);
         CHECK.due("15 a row that waits is not sent", 2, () -> x.send(9));
         x.sync();
@@ -101,7 +73,7 @@ public final class SecondRoomTest {
     }
 
     private static void sendReadsNoRow() {
-        ServiceDisk x = withRows(2);
+        ServiceDisk x = Disks.withRows(2);
         x.alter(0, 0, 300, 1);
         CHECK.due("15 sent", 1, () -> x.send(1));
         CHECK.due("15 no row is read", 0, () -> x.count(2));
@@ -110,7 +82,7 @@ public final class SecondRoomTest {
     }
 
     private static void sendWithTheLineDownMakesGaps() {
-        ServiceDisk x = withRows(4);
+        ServiceDisk x = Disks.withRows(4);
         x.line(false);
         CHECK.due("15 none is there", 0, () -> x.send(3));
         CHECK.due("18 three are sent", 3, () -> x.count(7));
@@ -119,8 +91,8 @@ public final class SecondRoomTest {
     }
 
     private static void gapTellsRuns() {
-        ServiceDisk x = withRows(12);
-        sendSo(x, "+--+---+-+");
+        ServiceDisk x = Disks.withRows(12);
+        Disks.sendSo(x, "+--+---+-+");
         CHECK.due("16 gap 0", 10002, () -> x.gap(0));
         CHECK.due("16 gap 1", 40003, () -> x.gap(1));
         CHECK.due("16 gap 2", 80001, () -> x.gap(2));
@@ -129,13 +101,13 @@ public final class SecondRoomTest {
     }
 
     private static void gapAtTheEnds() {
-        ServiceDisk x = withRows(8);
+        ServiceDisk x = Disks.withRows(8);
         CHECK.due("16 nothing was sent", -1, () -> x.gap(0));
-        sendSo(x, "--+--");
+        Disks.sendSo(x, "--+--");
         CHECK.due("16 at the first row", 2, () -> x.gap(0));
         CHECK.due("16 at the last sent one", 30002, () -> x.gap(1));
         CHECK.due("16 no more", -1, () -> x.gap(2));
-        ServiceDisk late = withRows(200);
+        ServiceDisk late = Disks.withRows(200);
         late.send(100);
         late.send(50);
         late.line(false);
@@ -144,13 +116,13 @@ public final class SecondRoomTest {
     }
 
     private static void gapRefusesBelowZero() {
-        ServiceDisk x = withRows(1);
+        ServiceDisk x = Disks.withRows(1);
         CHECK.outOfRange("16 gap -1", () -> x.gap(-1));
         CHECK.outOfRange("16 lowest gap", () -> x.gap(Integer.MIN_VALUE));
     }
 
     private static void fillTakesItsRange() {
-        ServiceDisk x = withRows(150);
+        ServiceDisk x = Disks.withRows(150);
         x.line(false);
         x.send(100);
         x.send(50);
@@ -167,8 +139,8 @@ public final class SecondRoomTest {
     }
 
     private static void fillTakesTheLowestFirst() {
-        ServiceDisk x = withRows(8);
-        sendSo(x, "+--+--");
+        ServiceDisk x = Disks.withRows(8);
+        Disks.sendSo(x, "+--+--");
         CHECK.due("17 one", 1, () -> x.fill(1));
         CHECK.due("16 the lowest was filled", 20001, () -> x.gap(0));
         CHECK.due("17 two", 2, () -> x.fill(2));
@@ -181,7 +153,7 @@ public final class SecondRoomTest {
     }
 
     private static void fillNeedsTheLine() {
-        ServiceDisk x = withRows(3);
+        ServiceDisk x = Disks.withRows(3);
         x.line(false);
         x.send(2);
         CHECK.notInThisState("17 the line is down", () -> x.fill(1));
@@ -190,8 +162,8 @@ public final class SecondRoomTest {
     }
 
     private static void startLeavesTheRoom() {
-        ServiceDisk x = withRows(8);
-        sendSo(x, "+-++-");
+        ServiceDisk x = Disks.withRows(8);
+        Disks.sendSo(x, "+-++-");
         x.cut(0, 0);
         x.save(1);
         x.start();
@@ -203,12 +175,12 @@ public final class SecondRoomTest {
     }
 
     private static void startForgetsRowsThatAreNotAnyMore() {
-        ServiceDisk x = Sectors.formatted(8);
+        ServiceDisk x = Disks.formatted(8);
         for (int i = 0; i < 6; i++) {
             x.row(0, i, 1);
             x.sync();
         }
-        sendSo(x, "+-+-+-");
+        Disks.sendSo(x, "+-+-+-");
         x.alter(0, 3, 0, 1);
         x.alter(1, 3, 0, 1);
         CHECK.due("18 lost rows are there before a start", 3, () -> x.count(6));

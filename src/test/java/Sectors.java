@@ -4,12 +4,6 @@ final class Sectors {
 
     private Sectors() {}
 
-    static ServiceDisk formatted(int n) {
-        ServiceDisk disk = new ServiceDisk();
-        disk.format(n);
-        return disk;
-    }
-
     static byte[] blank() {
         return new byte[BYTES];
     }

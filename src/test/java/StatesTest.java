@@ -20,7 +20,7 @@ public final class StatesTest {
     }
 
     private static void statesAreNumbered() {
-        ServiceDisk x = Sectors.formatted(8);
+        ServiceDisk x = Disks.formatted(8);
         CHECK.due("7 no state", 0, x::state);
         long[] states = {77, -5, Long.MIN_VALUE, Long.MAX_VALUE, 0, 0x0102030405060708L};
         for (int i = 0; i < states.length; i++) {
@@ -37,7 +37,7 @@ public final class StatesTest {
 
     private static void statesAreWrittenByTurns() {
         for (int n : new int[] {8, 17, 32}) {
-            ServiceDisk x = Sectors.formatted(n);
+            ServiceDisk x = Disks.formatted(n);
             x.save(0x0102030405060708L);
             x.save(-2);
             Sectors.turnBoth(x, n - 2, Sectors.ofState(1, 0x0102030405060708L), Sectors.ofState(9, 5));
@@ -52,7 +52,7 @@ public final class StatesTest {
     }
 
     private static void statesNeedPower() {
-        ServiceDisk x = Sectors.formatted(8);
+        ServiceDisk x = Disks.formatted(8);
         x.save(3);
         x.cut(0, 511);
         CHECK.due("6 cut", -1, () -> x.save(4));
@@ -63,7 +63,7 @@ public final class StatesTest {
     }
 
     private static void stateIsHeldWithPower() {
-        ServiceDisk x = Sectors.formatted(8);
+        ServiceDisk x = Disks.formatted(8);
         x.save(3);
         x.alter(0, 6, 0, 1);
         x.alter(1, 6, 0, 1);
@@ -76,7 +76,7 @@ public final class StatesTest {
     }
 
     private static void startTakesTheGreaterNumber() {
-        ServiceDisk x = Sectors.formatted(8);
+        ServiceDisk x = Disks.formatted(8);
         for (int i = 1; i <= 5; i++) {
             x.save(100 + i);
         }
@@ -91,7 +91,7 @@ public final class StatesTest {
     }
 
     private static void startWithoutAStateHasNone() {
-        ServiceDisk x = Sectors.formatted(8);
+        ServiceDisk x = Disks.formatted(8);
         Sectors.turnBoth(x, 6, Sectors.blank(), Sectors.ofState(0, 5));
         x.start();
         CHECK.due("9 number 0 is not right", 0, x::state);
@@ -100,7 +100,7 @@ public final class StatesTest {
     }
 
     private static void startTakesNumbersWithASign() {
-        ServiceDisk x = Sectors.formatted(8);
+        ServiceDisk x = Disks.formatted(8);
         Sectors.turnBoth(x, 6, Sectors.blank(), Sectors.ofState(-5, 55));
         x.start();
         CHECK.due("9 a number below 0", 55, x::state);
@@ -119,7 +119,7 @@ public final class StatesTest {
 
     private static void startWantsEightBytes() {
         for (int said : new int[] {0, 7, 9, 0x0100, 0x0108, 502, 503, 0xFFFF}) {
-            ServiceDisk x = Sectors.formatted(8);
+            ServiceDisk x = Disks.formatted(8);
             Sectors.turnBoth(x, 7, Sectors.blank(), Sectors.saying(said, 2, 0, 1, 2, 3, 4, 5, 6, 7));
             x.start();
             CHECK.due("9 not 8 bytes: " + said, 0, () -> x.count(5));
@@ -128,7 +128,7 @@ public final class StatesTest {
 
     private static void startWantsTheSum() {
         for (int at : new int[] {3, 5, 6, 13, 14, 507, 508, 511}) {
-            ServiceDisk x = Sectors.formatted(8);
+            ServiceDisk x = Disks.formatted(8);
             x.save(1);
             x.alter(0, 6, at, 128);
             x.start();
@@ -138,7 +138,7 @@ public final class StatesTest {
     }
 
     private static void startRepairsBothStateSectors() {
-        ServiceDisk x = Sectors.formatted(8);
+        ServiceDisk x = Disks.formatted(8);
         x.save(1);
         x.save(2);
         x.alter(0, 6, 20, 1);
@@ -155,7 +155,7 @@ public final class StatesTest {
     }
 
     private static void rightCopiesThatDifferStay() {
-        ServiceDisk x = Sectors.formatted(8);
+        ServiceDisk x = Disks.formatted(8);
         x.save(1);
         x.save(2);
         x.cut(1, 0);
@@ -172,7 +172,7 @@ public final class StatesTest {
 
     private static void cutSavesKeepTheStateBefore() {
         for (int bytes = 4; bytes < 512; bytes += 13) {
-            ServiceDisk x = Sectors.formatted(8);
+            ServiceDisk x = Disks.formatted(8);
             x.save(11);
             x.save(12);
             x.cut(0, bytes);
@@ -189,7 +189,7 @@ public final class StatesTest {
     }
 
     private static void numbersCountUpInThirtyTwoBits() {
-        ServiceDisk x = Sectors.formatted(8);
+        ServiceDisk x = Disks.formatted(8);
         Sectors.turnBoth(x, 6, Sectors.blank(), Sectors.ofState(Integer.MAX_VALUE, 1));
         x.start();
         CHECK.due("6 behind the greatest", Integer.MIN_VALUE, () -> x.save(2));

@@ -1,0 +1,84 @@
+import java.lang.reflect.Array;
+import java.lang.reflect.Field;
+import java.lang.reflect.Modifier;
+import java.util.Collections;
+import java.util.IdentityHashMap;
+import java.util.Set;
+
+/** "Terms", memory: an object's parts are made by its constructor and kept, whatever is called. */
+public final class MemoryTest {
+    private static final Check CHECK = new Check();
+    private static final int MOST_ELEMENTS = 60_000;
+
+    public static void main(String[] args) throws IllegalAccessException {
+        CHECK.sentence("Terms", "All memory is rows made once.");
+        ServiceDisk x = new ServiceDisk();
+        Set<Object> made = partsOf(x);
+        int elements = elementsOf(made);
+        CHECK.isTrue("a run's objects stay few: " + made.size(), made.size() < 20);
+        CHECK.isTrue("a run's elements stay few: " + elements, elements < MOST_ELEMENTS);
+        useAll(x);
+        samePartsAs(made, x);
+        x.format(32);
+        samePartsAs(made, x);
+        CHECK.end("MemoryTest");
+    }
+
+    private static void useAll(ServiceDisk x) {
+        x.format(8);
+        Disks.addRows(x, 100, 0, -1, 8);
+        x.sync();
+        x.save(Long.MIN_VALUE);
+        x.send(100);
+        Disks.spoil(x, 0, 0);
+        x.extract(0, 100);
+        CHECK.unknown("a refused call", () -> x.read(100, 0));
+        x.cut(1, 511);
+        x.save(5);
+        x.start();
+        x.line(false);
+        x.gap(0);
+        x.line(true);
+        x.fill(100);
+    }
+
+    private static void samePartsAs(Set<Object> made, ServiceDisk x) throws IllegalAccessException {
+        Set<Object> now = partsOf(x);
+        CHECK.isTrue("as many parts", now.size() == made.size());
+        CHECK.isTrue("the same parts", made.containsAll(now));
+    }
+
+    private static Set<Object> partsOf(Object whole) throws IllegalAccessException {
+        Set<Object> found = Collections.newSetFromMap(new IdentityHashMap<>());
+        collect(whole, found);
+        return found;
+    }
+
+    private static void collect(Object part, Set<Object> found) throws IllegalAccessException {
+        if (part == null || !found.add(part)) {
+            return;
+        }
+        if (part instanceof Object[] parts) {
+            for (Object inside : parts) {
+                collect(inside, found);
+            }
+        } else if (!part.getClass().isArray()) {
+            for (Field field : part.getClass().getDeclaredFields()) {
+                if (!field.getType().isPrimitive() && !Modifier.isStatic(field.getModifiers())) {
+                    field.setAccessible(true);
+                    collect(field.get(part), found);
+                }
+            }
+        }
+    }
+
+    private static int elementsOf(Set<Object> parts) {
+        int elements = 0;
+        for (Object part : parts) {
+            elements += part.getClass().isArray() ? Array.getLength(part) : part.getClass().getDeclaredFields().length;
+        }
+        return elements;
+    }
+
+    private MemoryTest() {}
+}
