@@ -296,6 +296,11 @@ public final class SectorTermsTest {
         CHECK.due("number 0 on sector 0", 0, () -> rowsFound(0, Sectors.of(0, 0, 1, 5)));
         CHECK.due("number 1 on sector 0", 1, () -> rowsFound(0, Sectors.of(1, 0, 1, 5)));
         CHECK.due("number 2 on sector 0", 0, () -> rowsFound(0, Sectors.of(2, 0, 1, 5)));
+        for (int shift = 8; shift < 32; shift++) {
+            byte[] sector = Sectors.of(1 | (1 << shift), 0, 1, 5);
+            CHECK.due("number 1 with bit " + shift, 0, () -> rowsFound(0, sector));
+            CHECK.due("number 1 with bit " + shift + " in copy 1", 0, () -> rowsFound(1, sector));
+        }
     }
 
     private static void stateSectorsHaveAnyNumberButZero() {
