@@ -63,6 +63,17 @@ final class Disks {
         return x;
     }
 
+    /** Row 0 (kind 3, bytes 10, 11) and row 1 (kind 5, byte 255) on sector 0, row 2 (kind 1, bytes 1, 2, 3) on 1. */
+    static ServiceDisk threeRows() {
+        ServiceDisk x = formatted(8);
+        x.row(3, 0x0A0B, 2);
+        x.row(5, 0xFF, 1);
+        x.sync();
+        x.row(1, 0x010203, 3);
+        x.sync();
+        return x;
+    }
+
     /** Sends rows by ones: up where the text has '+', down where it has '-'; the line is up before and behind. */
     static void sendSo(ServiceDisk x, String pattern) {
         boolean up = true;

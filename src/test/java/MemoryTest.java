@@ -1,3 +1,4 @@
+import java.lang.management.ManagementFactory;
 import java.lang.reflect.Array;
 import java.lang.reflect.Field;
 import java.lang.reflect.Modifier;
@@ -8,7 +9,8 @@ import java.util.Set;
 /** "Terms", memory: an object's parts are made by its constructor and kept, whatever is called. */
 public final class MemoryTest {
     private static final Check CHECK = new Check();
-    private static final int MOST_ELEMENTS = 60_000;
+    private static final int MOST_ELEMENTS = 45_000;
+    private static final int ROUNDS = 20;
 
     public static void main(String[] args) throws IllegalAccessException {
         CHECK.sentence("Terms", "All memory is rows made once.");
@@ -21,25 +23,53 @@ public final class MemoryTest {
         samePartsAs(made, x);
         x.format(32);
         samePartsAs(made, x);
+        callsMakeNothing();
         CHECK.end("MemoryTest");
     }
 
+    /** The least of some rounds is taken, since the machine itself may make something when a call is new to it. */
+    private static void callsMakeNothing() {
+        if (!(ManagementFactory.getThreadMXBean() instanceof com.sun.management.ThreadMXBean threads)) {
+            return;
+        }
+        long least = Long.MAX_VALUE;
+        for (int round = 0; round < ROUNDS; round++) {
+            ServiceDisk x = new ServiceDisk();
+            long before = threads.getCurrentThreadAllocatedBytes();
+            useWithoutRefusal(x);
+            least = Math.min(least, threads.getCurrentThreadAllocatedBytes() - before);
+        }
+        CHECK.same("bytes that calls make", "0", Long.toString(least));
+    }
+
     private static void useAll(ServiceDisk x) {
+        useWithoutRefusal(x);
+        CHECK.unknown("a refused call", () -> x.read(160, 0));
+    }
+
+    private static void useWithoutRefusal(ServiceDisk x) {
         x.format(8);
+        x.reserve(1);
         Disks.addRows(x, 100, 0, -1, 8);
         x.sync();
         x.save(Long.MIN_VALUE);
         x.send(100);
         Disks.spoil(x, 0, 0);
         x.extract(0, 100);
-        CHECK.unknown("a refused call", () -> x.read(100, 0));
+        x.read(99, 7);
+        x.kind(0);
         x.cut(1, 511);
         x.save(5);
         x.start();
+        x.state();
         x.line(false);
+        Disks.addRows(x, 60, 7, 1, 8);
+        x.sync();
+        x.send(60);
         x.gap(0);
         x.line(true);
         x.fill(100);
+        x.count(6);
     }
 
     private static void samePartsAs(Set<Object> made, ServiceDisk x) throws IllegalAccessException {

@@ -40,19 +40,8 @@ public final class ReadingEdgesTest {
         CHECK.end("ReadingEdgesTest");
     }
 
-    /** Row 0 (kind 3, bytes 10, 11) and row 1 (kind 5, byte 255) on sector 0, row 2 (kind 1, bytes 1, 2, 3) on 1. */
-    private static ServiceDisk threeRows() {
-        ServiceDisk x = Disks.formatted(8);
-        x.row(3, 0x0A0B, 2);
-        x.row(5, 0xFF, 1);
-        x.sync();
-        x.row(1, 0x010203, 3);
-        x.sync();
-        return x;
-    }
-
     private static ServiceDisk threeRowsWithoutPower() {
-        ServiceDisk x = threeRows();
+        ServiceDisk x = Disks.threeRows();
         Disks.losePower(x);
         return x;
     }
@@ -61,7 +50,7 @@ public final class ReadingEdgesTest {
         CHECK.sentence("Promise 10", "A byte on the disk is altered by a mask (exclusive or; 1 .. 255), with or without"
                 + " power.");
         for (int mask : new int[] {1, 128, 255}) {
-            ServiceDisk x = threeRows();
+            ServiceDisk x = Disks.threeRows();
             x.alter(0, 0, 9, mask);
             CHECK.due("altered by " + mask, 11, () -> x.read(0, 1));
             CHECK.due("so it is wrong", 1, () -> x.count(2));
@@ -74,7 +63,7 @@ public final class ReadingEdgesTest {
         Disks.spoilBoth(off, 1);
         CHECK.notInThisState("there is still no power", () -> off.count(0));
         CHECK.due("altered without power", 2, off::start);
-        ServiceDisk waits = threeRows();
+        ServiceDisk waits = Disks.threeRows();
         waits.cut(0, 0);
         waits.alter(0, 0, 0, 1);
         CHECK.due("it is no write that a cut comes with", 3, () -> waits.count(0));
@@ -104,7 +93,7 @@ public final class ReadingEdgesTest {
 
     private static void alterRange() {
         CHECK.sentence("Promise 10", "range: the mask.");
-        ServiceDisk x = threeRows();
+        ServiceDisk x = Disks.threeRows();
         for (int mask : new int[] {LOW, -1, 0, 256, 257, HIGH}) {
             CHECK.outOfRange("mask " + mask, () -> x.alter(0, 0, 0, mask));
         }
@@ -116,7 +105,7 @@ public final class ReadingEdgesTest {
 
     private static void readAnswersAByte() {
         CHECK.sentence("Promise 11", "Byte i of an acknowledged row that is read: what its sector has (i from 0 on)");
-        ServiceDisk x = threeRows();
+        ServiceDisk x = Disks.threeRows();
         CHECK.due("the first byte", 10, () -> x.read(0, 0));
         CHECK.due("the last byte", 11, () -> x.read(0, 1));
         CHECK.due("255 is not -1", 255, () -> x.read(1, 0));
@@ -130,7 +119,7 @@ public final class ReadingEdgesTest {
 
     private static void readBehind() {
         CHECK.sentence("Promise 11", "-1 behind it");
-        ServiceDisk x = threeRows();
+        ServiceDisk x = Disks.threeRows();
         CHECK.due("just behind", -1, () -> x.read(0, 2));
         CHECK.due("where the next row stands", -1, () -> x.read(0, 4));
         CHECK.due("behind the last row", -1, () -> x.read(2, 3));
@@ -140,7 +129,7 @@ public final class ReadingEdgesTest {
 
     private static void readLost() {
         CHECK.sentence("Promise 11", "-2: it is lost.");
-        ServiceDisk x = threeRows();
+        ServiceDisk x = Disks.threeRows();
         Disks.spoilBoth(x, 0);
         CHECK.due("the first row of the sector", -2, () -> x.read(0, 0));
         CHECK.due("the last row of the sector", -2, () -> x.read(1, 0));
@@ -150,7 +139,7 @@ public final class ReadingEdgesTest {
 
     private static void readUnknown() {
         CHECK.sentence("Promise 11", "Unknown: no such row is acknowledged");
-        ServiceDisk x = threeRows();
+        ServiceDisk x = Disks.threeRows();
         for (int row : new int[] {LOW, -1, 3, HIGH}) {
             CHECK.unknown("row " + row, () -> x.read(row, 0));
             CHECK.unknown("row " + row + " ahead of i", () -> x.read(row, -1));
@@ -167,7 +156,7 @@ public final class ReadingEdgesTest {
 
     private static void readRange() {
         CHECK.sentence("Promise 11", "range: i is below 0");
-        ServiceDisk x = threeRows();
+        ServiceDisk x = Disks.threeRows();
         CHECK.outOfRange("-1", () -> x.read(0, -1));
         CHECK.outOfRange("the lowest", () -> x.read(2, LOW));
         Disks.spoilBoth(x, 0);
@@ -198,7 +187,7 @@ public final class ReadingEdgesTest {
         Disks.spoil(x, 0, 0);
         CHECK.due("from copy 1", 7, () -> x.kind(1));
         CHECK.due("which is told", 1, () -> x.count(2));
-        ServiceDisk y = threeRows();
+        ServiceDisk y = Disks.threeRows();
         byte[] is = Sectors.of(1, 3, 2, 10, 11, 5, 1, 255);
         Sectors.turn(y, 0, 0, is, Sectors.of(1, 0, 8, 1, 2, 200, 4, 5, 6, 7, 8));
         CHECK.due("the kind there", 0, () -> y.kind(0));
@@ -207,7 +196,7 @@ public final class ReadingEdgesTest {
 
     private static void kindLost() {
         CHECK.sentence("Promise 12", "-2: it is lost.");
-        ServiceDisk x = threeRows();
+        ServiceDisk x = Disks.threeRows();
         Disks.spoilBoth(x, 1);
         CHECK.due("lost", -2, () -> x.kind(2));
         CHECK.due("not lost", 5, () -> x.kind(1));
@@ -215,7 +204,7 @@ public final class ReadingEdgesTest {
 
     private static void kindUnknown() {
         CHECK.sentence("Promise 12", "Unknown: likewise");
-        ServiceDisk x = threeRows();
+        ServiceDisk x = Disks.threeRows();
         x.row(0, 7, 1);
         for (int row : new int[] {LOW, -1, 3, 4, HIGH}) {
             CHECK.unknown("row " + row, () -> x.kind(row));
@@ -238,7 +227,7 @@ public final class ReadingEdgesTest {
     private static void extractSums() {
         CHECK.sentence("Promise 13", "The sum of kinds and bytes of acknowledged rows from one to another one (itself"
                 + " not), one behind the other");
-        ServiceDisk x = threeRows();
+        ServiceDisk x = Disks.threeRows();
         for (int row = 0; row <= 3; row++) {
             int at = row;
             CHECK.due("none at " + row, 0, () -> x.extract(at, at));
@@ -256,7 +245,7 @@ public final class ReadingEdgesTest {
 
     private static void extractLeavesOutLost() {
         CHECK.sentence("Promise 13", "lost ones are left out.");
-        ServiceDisk x = threeRows();
+        ServiceDisk x = Disks.threeRows();
         Disks.spoilBoth(x, 0);
         CHECK.due("the first two", Sectors.sum(1, 1, 2, 3), () -> x.extract(0, 3));
         Disks.spoilBoth(x, 1);
@@ -268,7 +257,7 @@ public final class ReadingEdgesTest {
 
     private static void extractRange() {
         CHECK.sentence("Promise 13", "Range: they are not so (0 <= from <= to <= all)");
-        ServiceDisk x = threeRows();
+        ServiceDisk x = Disks.threeRows();
         x.row(0, 7, 1);
         int[][] wrong = {
             {-1, 0}, {-1, 3}, {-1, -1}, {1, 0}, {3, 2}, {0, -1}, {0, 4}, {3, 4}, {4, 4}, {4, 3}, {LOW, HIGH}, {HIGH, LOW},
@@ -525,7 +514,7 @@ public final class ReadingEdgesTest {
 
     private static void countUnknown() {
         CHECK.sentence("Promise 18", "Unknown: no such what");
-        ServiceDisk x = threeRows();
+        ServiceDisk x = Disks.threeRows();
         for (int what : new int[] {LOW, -1, 8, HIGH}) {
             CHECK.unknown("count " + what, () -> x.count(what));
         }

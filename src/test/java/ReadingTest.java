@@ -22,17 +22,6 @@ public final class ReadingTest {
         CHECK.end("ReadingTest");
     }
 
-    /** Rows 0 and 1 on sector 0, row 2 on sector 1. */
-    private static ServiceDisk threeRows() {
-        ServiceDisk x = Disks.formatted(8);
-        x.row(3, 0x0A0B, 2);
-        x.row(5, 0xFF, 1);
-        x.sync();
-        x.row(1, 0x010203, 3);
-        x.sync();
-        return x;
-    }
-
     private static void alterRefusesInOrder() {
         ServiceDisk x = Disks.formatted(8);
         int[] far = {-1, Integer.MIN_VALUE, Integer.MAX_VALUE};
@@ -55,7 +44,7 @@ public final class ReadingTest {
     }
 
     private static void alterIsExclusiveOr() {
-        ServiceDisk x = threeRows();
+        ServiceDisk x = Disks.threeRows();
         x.alter(0, 0, 300, 255);
         x.alter(0, 0, 300, 240);
         x.read(0, 0);
@@ -66,7 +55,7 @@ public final class ReadingTest {
     }
 
     private static void alterWorksWithoutPower() {
-        ServiceDisk x = threeRows();
+        ServiceDisk x = Disks.threeRows();
         x.cut(0, 0);
         x.save(1);
         x.alter(0, 0, 0, 1);
@@ -78,7 +67,7 @@ public final class ReadingTest {
 
     private static void alterReachesEveryByte() {
         for (int at = 0; at < Sectors.BYTES; at += 7) {
-            ServiceDisk x = threeRows();
+            ServiceDisk x = Disks.threeRows();
             x.alter(0, 1, at, 1 << (at % 8));
             CHECK.due("11 byte " + at + " is altered", 1, () -> x.read(2, 0));
             CHECK.due("11 from copy 1", 1, () -> x.count(2));
@@ -89,7 +78,7 @@ public final class ReadingTest {
     }
 
     private static void readAnswersBytes() {
-        ServiceDisk x = threeRows();
+        ServiceDisk x = Disks.threeRows();
         CHECK.due("11 row 0, byte 0", 0x0A, () -> x.read(0, 0));
         CHECK.due("11 row 0, byte 1", 0x0B, () -> x.read(0, 1));
         CHECK.due("11 behind it", -1, () -> x.read(0, 2));
@@ -100,7 +89,7 @@ public final class ReadingTest {
     }
 
     private static void readRefusesInOrder() {
-        ServiceDisk x = threeRows();
+        ServiceDisk x = Disks.threeRows();
         for (int row : new int[] {-1, 3, Integer.MIN_VALUE, Integer.MAX_VALUE}) {
             CHECK.unknown("11 row " + row, () -> x.read(row, 0));
             CHECK.unknown("11 row ahead of range " + row, () -> x.read(row, -1));
@@ -117,7 +106,7 @@ public final class ReadingTest {
     }
 
     private static void readTakesTheOtherCopy() {
-        ServiceDisk x = threeRows();
+        ServiceDisk x = Disks.threeRows();
         x.alter(1, 0, 300, 16);
         CHECK.due("11 copy 0 is right", 0x0B, () -> x.read(0, 1));
         CHECK.due("11 not from copy 1", 0, () -> x.count(2));
@@ -131,7 +120,7 @@ public final class ReadingTest {
     }
 
     private static void readOfALostRow() {
-        ServiceDisk x = threeRows();
+        ServiceDisk x = Disks.threeRows();
         Disks.spoilBoth(x, 0);
         CHECK.due("11 lost", -2, () -> x.read(0, 0));
         CHECK.due("11 lost, behind it", -2, () -> x.read(0, 8));
@@ -143,7 +132,7 @@ public final class ReadingTest {
     }
 
     private static void readCountsEveryTime() {
-        ServiceDisk x = threeRows();
+        ServiceDisk x = Disks.threeRows();
         x.alter(0, 0, 300, 16);
         CHECK.due("11 behind it", -1, () -> x.read(0, 2));
         CHECK.due("11 the row was read", 1, () -> x.count(2));
@@ -190,7 +179,7 @@ public final class ReadingTest {
     }
 
     private static void kindRefusesInOrder() {
-        ServiceDisk x = threeRows();
+        ServiceDisk x = Disks.threeRows();
         for (int row : new int[] {-1, 3, Integer.MIN_VALUE, Integer.MAX_VALUE}) {
             CHECK.unknown("12 row " + row, () -> x.kind(row));
         }
@@ -199,7 +188,7 @@ public final class ReadingTest {
     }
 
     private static void extractSums() {
-        ServiceDisk x = threeRows();
+        ServiceDisk x = Disks.threeRows();
         CHECK.due("13 none", 0, () -> x.extract(0, 0));
         CHECK.due("13 none at the end", 0, () -> x.extract(3, 3));
         CHECK.due("13 the first", Sectors.sum(3, 0x0A, 0x0B), () -> x.extract(0, 1));
@@ -216,7 +205,7 @@ public final class ReadingTest {
     }
 
     private static void extractRefusesInOrder() {
-        ServiceDisk x = threeRows();
+        ServiceDisk x = Disks.threeRows();
         x.row(0, 1, 1);
         CHECK.outOfRange("13 below 0", () -> x.extract(-1, 2));
         CHECK.outOfRange("13 above all", () -> x.extract(0, 4));
@@ -227,7 +216,7 @@ public final class ReadingTest {
     }
 
     private static void extractLeavesOutLostRows() {
-        ServiceDisk x = threeRows();
+        ServiceDisk x = Disks.threeRows();
         Disks.spoilBoth(x, 0);
         CHECK.due("13 the first sector is lost", Sectors.sum(1, 1, 2, 3), () -> x.extract(0, 3));
         Disks.spoilBoth(x, 0);
@@ -239,7 +228,7 @@ public final class ReadingTest {
     }
 
     private static void extractCountsReads() {
-        ServiceDisk x = threeRows();
+        ServiceDisk x = Disks.threeRows();
         x.alter(0, 0, 300, 16);
         CHECK.due("13 from copy 1", Sectors.sum(3, 0x0A, 0x0B, 5, 0xFF, 1, 1, 2, 3), () -> x.extract(0, 3));
         CHECK.due("13 each row once", 2, () -> x.count(2));
